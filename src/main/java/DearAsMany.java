@@ -352,7 +352,7 @@ public final class DearAsMany {
     }
 
     /** WORTH of the thing to one of a kind with so many OTHERS. */
-    private static int value(int kind, int liking, int taste, int season, int others) {
+    private static int valueOf(int kind, int liking, int taste, int season, int others) {
         if (kind == FIRST && others > 0) {
             return 0;
         }
@@ -594,12 +594,11 @@ public final class DearAsMany {
     /** The people laid: OTHERS, WORTH and who WOULD, by any set of owners and any season. */
     private static final class Market {
         final People people = new People();
-        /** By a set of PERSONS the set of their HOUSEHOLDS. */
+        /** By a set of PERSONS the set of their HOUSEHOLDS; by nobody always none. */
         final int[] homes = new int[MOST_SETS];
 
         void open(People told) {
             people.copy(told);
-            put(homes, 0, 0);
             for (int i = 0; i < people.size; i++) {
                 int home = bit(people.trait(i, HOME));
                 for (int set = 0; set < bit(i); set++) {
@@ -617,7 +616,7 @@ public final class DearAsMany {
         }
 
         int valueWith(int i, int others, int season) {
-            return value(people.trait(i, KIND), people.trait(i, LIKING), people.trait(i, TASTE), season, others);
+            return valueOf(people.trait(i, KIND), people.trait(i, LIKING), people.trait(i, TASTE), season, others);
         }
 
         /** Whether one who owns none WOULD buy. */
@@ -891,7 +890,7 @@ public final class DearAsMany {
         boolean fit(int i, int liking, People people) {
             for (int k = 0; k < size && k < purchases.length; k++) {
                 int n = at(others, k);
-                int value = value(people.trait(i, KIND), liking, people.trait(i, TASTE), EVEN_SEASON, n);
+                int value = valueOf(people.trait(i, KIND), liking, people.trait(i, TASTE), EVEN_SEASON, n);
                 if (at(persons, k) == i && value > n != purchases[k]) {
                     return false;
                 }

@@ -47,12 +47,12 @@ public final class ModelTest {
     private String text() {
         StringBuilder t = new StringBuilder();
         int people = 1 + below(7) + (below(20) == 0 ? 1 : 0);
-        int mild = below(4);
+        int mild = below(5);
         int oneKind = below(6);
         for (int i = 0; i < people; i++) {
             int kind = oneKind < 4 ? oneKind : below(4);
-            int w = mild == 0 ? below(100) : below(16);
-            int c = mild == 1 ? 9 : mild == 2 ? below(19) : 6 + below(7);
+            int w = mild == 0 ? below(100) : mild == 4 ? below(40) : below(16);
+            int c = mild == 1 ? 9 : mild == 2 || mild == 4 ? below(19) : 6 + below(7);
             t.append("p").append(kind).append(",").append(w).append(",").append(c).append(",");
             t.append(below(mild == 3 ? 3 : 8)).append(",").append(below(3) == 0 ? below(4) : below(100)).append(";");
             if (below(12) == 0) {
@@ -62,7 +62,9 @@ public final class ModelTest {
                 t.append("o").append(below(i + 1)).append(";");
             }
         }
-        if (below(3) == 0) {
+        if (mild == 4) {
+            t.append("s").append(25 + below(20)).append(";");
+        } else if (below(3) == 0) {
             t.append("s").append(below(2) == 0 ? below(100) : 44 + below(13)).append(";");
         }
         if (below(8) == 0) {

@@ -42,4 +42,24 @@ final class Due {
         }
         return x;
     }
+
+    /** So many PERSONS, each of a HOUSEHOLD of his own, with 9 pennies: nobody would buy, nobody is rid of it, each set rests. */
+    static String calm(int persons) {
+        StringBuilder t = new StringBuilder();
+        for (int i = 0; i < persons; i++) {
+            t.append("p0,0,9,").append(i).append(",9;");
+        }
+        return t.toString();
+    }
+
+    /** The ITEMS by which a set of PERSONS own one at first. */
+    static String owners(int set) {
+        StringBuilder t = new StringBuilder();
+        for (int i = 0; i < 7; i++) {
+            if ((set >> i & 1) == 1) {
+                t.append('o').append(i).append(';');
+            }
+        }
+        return t.toString();
+    }
 }
